@@ -763,37 +763,44 @@ public final class FarBank {
         int place = NONE;
 
         boolean readAll(byte[] text, int length, River into) {
+            begin(text, length);
+            into.clear();
+            boolean fine = true;
+            for (int i = 0; i < MOST_BYTES && fine && scan.sort != Scan.END; i++) {
+                switch (scan.sort) {
+                    case Scan.DEED:
+                        fine = readDeed(into);
+                        break;
+                    case Scan.PERSON:
+                        fine = readPerson(into);
+                        break;
+                    case Scan.GROUP:
+                        fine = readGroup(into);
+                        break;
+                    case Scan.VOTE:
+                        fine = readVote(into);
+                        break;
+                    case Scan.WINTER:
+                        fine = readWinter(into);
+                        break;
+                    case Scan.DRAW:
+                        fine = readDraw(into);
+                        break;
+                    default:
+                        fine = stray();
+                }
+                fine = fine && need(';');
+            }
+            return fine;
+        }
+
+        private void begin(byte[] text, int length) {
             flaw = 0;
             place = NONE;
             voteTold = false;
             winterTold = false;
             drawTold = false;
-            into.clear();
             scan.open(text, length);
-            boolean fine = true;
-            for (int i = 0; i < MOST_BYTES && fine && scan.sort != Scan.END; i++) {
-                fine = readLine(into) && need(';');
-            }
-            return fine;
-        }
-
-        private boolean readLine(River into) {
-            switch (scan.sort) {
-                case Scan.DEED:
-                    return readDeed(into);
-                case Scan.PERSON:
-                    return readPerson(into);
-                case Scan.GROUP:
-                    return readGroup(into);
-                case Scan.VOTE:
-                    return readVote(into);
-                case Scan.WINTER:
-                    return readWinter(into);
-                case Scan.DRAW:
-                    return readDraw(into);
-                default:
-                    return stray();
-            }
         }
 
         private boolean readDeed(River into) {

@@ -1,0 +1,90 @@
+import java.lang.reflect.Constructor;
+import java.lang.reflect.Field;
+import java.lang.reflect.Method;
+import java.lang.reflect.Modifier;
+import java.nio.file.Files;
+import java.nio.file.Path;
+import java.util.HashSet;
+import java.util.Set;
+import java.util.regex.Matcher;
+import java.util.regex.Pattern;
+
+/** Rules of ../shared/LANGUAGE.md that can be seen from the source or the compiled class. */
+public final class LanguageTest {
+    private static void absent(String source, String pattern) {
+        Matcher m = Pattern.compile(pattern).matcher(source);
+        Checks.due("in the source: " + pattern, m.find(), false);
+    }
+
+    private static void face() {
+        Set<String> names = new HashSet<>();
+        for (Method m : FarBank.class.getDeclaredMethods()) {
+            if (Modifier.isPublic(m.getModifiers())) {
+                names.add(m.getName());
+            } else {
+                Checks.due(m.getName() + " is private", Modifier.isPrivate(m.getModifiers()), true);
+            }
+        }
+        Checks.due("public methods", names.size(), 47);
+        for (Field f : FarBank.class.getDeclaredFields()) {
+            boolean constant = f.getName().equals("NONE") || f.getName().equals("GAP");
+            Checks.due(f.getName() + " is as it must be", Modifier.isPublic(f.getModifiers()) == constant
+                    && Modifier.isPrivate(f.getModifiers()) != constant, true);
+            Checks.due(f.getName() + " if static is final", !Modifier.isStatic(f.getModifiers()) || Modifier.isFinal(f.getModifiers()), true);
+        }
+        for (Constructor<?> c : FarBank.class.getDeclaredConstructors()) {
+            Checks.due("the constructor", Modifier.isPublic(c.getModifiers()) && c.getParameterCount() == 0, true);
+        }
+        Class<?>[] inside = FarBank.class.getDeclaredClasses();
+        Checks.due("at most some twelve classes", inside.length <= 12, true);
+        for (Class<?> c : inside) {
+            Checks.due(c + " is static", Modifier.isStatic(c.getModifiers()), true);
+            int fields = 0;
+            for (Field f : c.getDeclaredFields()) {
+                fields += Modifier.isStatic(f.getModifiers()) ? 0 : 1;
+            }
+            Checks.due(c + " has at most twenty fields", fields <= 20, true);
+            for (Method m : c.getDeclaredMethods()) {
+                Checks.due(c + "." + m.getName() + " bears no name of the face", names.contains(m.getName()), false);
+                Checks.due(m + " has at most seven parameters", m.getParameterCount() <= 7, true);
+            }
+        }
+    }
+
+    private static void lengths(String source) {
+        int since = 0;
+        String name = "";
+        String[] lines = source.split("\n");
+        for (int i = 0; i < lines.length; i++) {
+            if (lines[i].matches("( {4}| {8})[a-z].*\\) \\{")) {
+                since = i;
+                name = lines[i].trim();
+            } else if (lines[i].matches("( {4}| {8})\\}") && !name.isEmpty()) {
+                Checks.due(name + " has at most sixty lines", i - since <= 60, true);
+                name = "";
+            }
+        }
+    }
+
+    public static void main(String[] args) throws Exception {
+        String source = Files.readString(Path.of(args.length > 0 ? args[0] : ".", "src/main/java/FarBank.java"));
+        for (int i = 0; i < source.length(); i++) {
+            if (source.charAt(i) > 126) {
+                Checks.due("a sign above 126 at " + i, 1, 0);
+            }
+        }
+        String code = source.replaceAll("(?s)/\\*.*?\\*/", "").replaceAll("//[^\n]*", "").replaceAll("\"[^\"]*\"", "\"\"");
+        for (String word : new String[] {"throw", "throws", "try", "catch", "synchronized", "assert", "import", "package", "protected", "double", "float"}) {
+            absent(code, "\\b" + word + "\\b");
+        }
+        absent(code, "->");
+        absent(code, "::");
+        absent(code, "Exact");
+        absent(code, "\"\" *\\+|\\+ *\"\"");
+        absent(code, "\\[\\]\\[\\]");
+        absent(code, "static \\{");
+        face();
+        lengths(source);
+        Checks.close("LanguageTest");
+    }
+}
