@@ -43,6 +43,12 @@ public final class ActsTest {
         Checks.due("the same SPEAKER is still asked", bank.town(0, 4), 1);
         bank.force(1);
         Checks.due("who follows is not", bank.town(0, 4), -1);
+        bank.force(3);
+        bank.drum(0, 1);
+        Checks.due("asked of the other one", bank.town(1, 4), 1);
+        bank.force(2);
+        Checks.due("who follows there is not, either", bank.town(1, 4), -1);
+        Checks.due("what was done stays", bank.town(1, 2), -1);
         bank.drum(1, 0);
         Checks.due("elect()", bank.elect(), 1);
         Checks.due("who follows by election is not", bank.town(0, 4), -1);

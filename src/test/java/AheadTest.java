@@ -81,6 +81,21 @@ public final class AheadTest {
         bank.season();
         bank.force(0);
         Checks.due("behind 101, which is too far", bank.ruin(0), -1);
+        bank = Checks.told("deed a here good 50 there good 0;deed b here good 9 there good 0;deed c here good 10 there good 0;deed z here bad 1 there good 0;"
+                + "person p of 0 first z;person q of 0 first a;person r of 0 first b;person s of 0 first c;");
+        bank.force(1);
+        bank.season();
+        bank.force(2);
+        bank.season();
+        bank.force(0);
+        Checks.due("59, 58, .. -1", bank.ruin(0), 60);
+        bank.undo();
+        bank.undo();
+        bank.undo();
+        bank.force(3);
+        bank.season();
+        bank.force(0);
+        Checks.due("60, 59, .. 0", bank.ruin(0), -1);
     }
 
     private static void lie(FarBank bank, String what, int... want) {
@@ -122,6 +137,10 @@ public final class AheadTest {
         bank.drum(0, 2);
         Checks.due("what is asked already stays", bank.petition(0, 2), -6);
         lie(bank, "asked already", -1, 1);
+        bank = Checks.told("deed a here good 0 there bad 3;deed b here good 0 there bad 2;person p of 0 first a;person q of 1 first a;");
+        bank.force(1);
+        Checks.due("no DEED is better than the last one", bank.petition(0, 3), -6);
+        lie(bank, "the last DEED", 1, 1, 1);
         // p goes on with what pleases TOWN 1 as soon as that was done to his own: fewer askings, and the later one first.
         bank = Checks.told(deeds + "person p of 0 first b on b does b;person q of 1 first a on b does b;");
         bank.force(0);
@@ -147,6 +166,8 @@ public final class AheadTest {
         // q has 18; p needs 9 of them, as he is the first of like ones: 4 and 5 are, as bits, less than 3 and 6.
         Checks.due("sway(0, 0)", bank.sway(0, 0), 2);
         Checks.due("sway(0, 1)", bank.sway(0, 1), 4 + 8);
+        bank = Checks.told(deeds + persons + "group g of 0 many 3;group i of 0 many 3;group j of 0 many 6;");
+        Checks.due("one of 6 is fewer than two of 3", bank.sway(0, 1), 4);
         bank = Checks.told(deeds + "person q of 0 first b;person p of 0 first a;group g of 0 many 3;group i of 0 many 3;");
         Checks.due("like ones are not enough for a later one", bank.sway(1, 0), 2);
         Checks.due("like ones are not enough for a later one", bank.sway(1, 1), 3);

@@ -68,6 +68,7 @@ public final class GamesTest {
         Checks.due("feared with nobody over there", bank.feared(0, 5), 0);
         Checks.due("rests with nobody over there", bank.rests(5), 0);
         Checks.due("concord with nobody over there", bank.concord(5), GAP);
+        Checks.due("feared by nobody", bank.feared(2, 5), 0);
         Checks.due("twins(0)", bank.twins(0), 5);
         Checks.due("twins(1)", bank.twins(1), 2);
         bank = Checks.told("deed a here good 1 there bad 1;deed b here good 2 there bad 2;person p of 0 first a on b does b;"
@@ -75,6 +76,8 @@ public final class GamesTest {
         Checks.due("twins in both TOWNS, told in other words", bank.twins(0), 3);
         Checks.due("twins(2)", bank.twins(2), 4);
         Checks.due("best of like ones the first", bank.best(0, 4), 3);
+        // r against q: 1 - 1 in each season; against s: 1 - 2.
+        Checks.due("a PAY of 0 is not feared", bank.feared(2, 1), 8 + 16);
     }
 
     private static void pairs() {
@@ -157,6 +160,21 @@ public final class GamesTest {
         Checks.due("round of ten", bank.round(0, 1, 1), 10);
         Checks.due("mean 1 of 5", bank.mean(0, 1, 0), 1);
         Checks.due("mean 1 of 5", bank.mean(0, 1, 1), 5);
+        // The most seasons that a ROUND takes, and the most that go ahead of one.
+        bank = Checks.told(text + "person p of 0 first b" + answers(4, 3, 1, 0, 2) + ";person q of 1 first d" + answers(1, 0, 3, 4, 2) + ";");
+        Checks.due("round from", bank.round(0, 1, 0), 0);
+        Checks.due("round of twelve", bank.round(1, 0, 1), 12);
+        bank = Checks.told(text + "person p of 0 first e" + answers(2, 1, 0, 4, 3) + ";person q of 1 first c" + answers(4, 0, 0, 3, 1) + ";");
+        Checks.due("round from", bank.round(0, 1, 0), 8);
+        Checks.due("round of one", bank.round(0, 1, 1), 1);
+    }
+
+    private static String answers(int... deeds) {
+        StringBuilder s = new StringBuilder();
+        for (int d = 0; d < deeds.length; d++) {
+            s.append(" on ").append((char) ('a' + d)).append(" does ").append((char) ('a' + deeds[d]));
+        }
+        return s.toString();
     }
 
     private static void treaties() {
@@ -181,6 +199,11 @@ public final class GamesTest {
         bank = new FarBank();
         Checks.due("fair(0) without DEEDS", bank.fair(0), GAP);
         Checks.due("treaties(9) without DEEDS", bank.treaties(9), 0);
+        // b now (1 + 2) and then 1 + 0, against 2 a season: what is worth the same holds.
+        bank = Checks.told("deed a here good 0 there good 2;deed b here good 1 there bad 0;deed c here bad 9 there good 0;");
+        Checks.due("holds(0, 0, 0): 3 against 2", bank.holds(0, 0, 0), 0);
+        Checks.due("holds(0, 0, 1): 3 + 1 against 4", bank.holds(0, 0, 1), 1);
+        Checks.due("holds(1, 0, 1): a would have to be kept, too", bank.holds(1, 0, 1), 0);
         // One DEED alone: there is no other to be tempted by.
         bank = Checks.told("deed a here bad 5 there bad 5;");
         Checks.due("one DEED alone", bank.holds(0, 0, 60), 1);

@@ -28,6 +28,13 @@ public final class SeenTest {
         Checks.due("kind on kind, by what is told or by the first", bank.fits(0), 13);
         bank.seen(2, 2, false);
         Checks.due("not rest on rest", bank.fits(0), 5);
+        Checks.put(bank, ToldTest.SAMPLE);
+        bank.river();
+        Checks.due("nothing is SEEN of a new RIVER", bank.fits(0), 15);
+        Checks.due("nothing to untell", bank.untell(0), false);
+        bank.from(1, true);
+        Checks.due("nothing behind it to untell", bank.untell(1), false);
+        Checks.due("of TOWN 1", bank.fits(0), 12);
     }
 
     private static void thirty() {

@@ -74,6 +74,17 @@ public final class TextTest {
         bank.end(8);
         Checks.due("river", bank.river(), 0);
         Checks.due("the SEED", bank.about(4), 71);
+        bank.feed(0, 0, 0, 0, 0);
+        Checks.due("end(0)", bank.end(0), 0);
+        Checks.due("bytes", bank.about(9), 0);
+        // TOKENS that end with the last byte that there can be.
+        for (String last : new String[] {"vote", "draw 12", "vote 1 +"}) {
+            FarBank full = new FarBank();
+            Checks.put(full, times(" ", 1600 - last.length()) + last);
+            Checks.due("river up to the rim", full.river(), -1);
+            Checks.due("fault(0) at the rim", full.fault(0), 2);
+            Checks.due("fault(1) at the rim", full.fault(1), 1600);
+        }
     }
 
     private static void tokens() {
@@ -86,6 +97,9 @@ public final class TextTest {
         fault("draw 00001;", 1, 5);
         fine("draw 0999;", 0);
         fault("deed d here good 1there", 1, 17);
+        fault("draw 1a", 1, 5);
+        fault("draw 1z", 1, 5);
+        fault("draw 1{", 1, 6);
         fine("deed d here good1 there bad2;", 0);
         fine("deed\nd here\n\ngood 1 there bad 2\n;", 0);
         fault("drawn 1;", 2, 0);

@@ -54,6 +54,7 @@ public final class ToldTest {
         int[] none = {0, -1, -1, -1, -1};
         for (int what = 0; what < 5; what++) {
             Checks.due("town(0, " + what + ") at first", bank.town(0, what), none[what]);
+            Checks.due("town(1, " + what + ") at first", bank.town(1, what), none[what]);
         }
         bank.force(1);
         bank.force(2);
@@ -124,6 +125,9 @@ public final class ToldTest {
         more("not not here < 3", false);
         more("not here < 3", true);
         more("here > 2", true);
+        more("here > 3", false);
+        more("here < 1", false);
+        more("3 < here", false);
         more("here / 0", false);
         more("here % 0 = 0 and here = 3", true);
         more("here / 3", true);
