@@ -759,6 +759,8 @@ public final class FarBank {
         private boolean winterTold;
         private boolean drawTold;
         private int got;
+        /** On which DEEDS the PERSON of this line was told to do something, as bits. */
+        private int answered;
         int flaw;
         int place = NONE;
 
@@ -847,9 +849,9 @@ public final class FarBank {
             if (!need(Scan.FIRST) || !knownDeed(into)) {
                 return false;
             }
-            into.first[p] = got;
+            into.startAnswers(p, got);
+            answered = 0;
             scan.step();
-            into.forgetAnswers(p);
             for (int i = 0; i <= MOST_DEEDS && scan.sort == Scan.ON; i++) {
                 scan.step();
                 if (!readAnswer(into, p)) {
@@ -865,9 +867,10 @@ public final class FarBank {
                 return false;
             }
             int on = got;
-            if (into.isAnswerTold(p, on)) {
+            if ((answered >> on & 1) == 1) {
                 return refuse(TOLD_TWICE);
             }
+            answered |= 1 << on;
             scan.step();
             if (!need(Scan.DOES) || !knownDeed(into)) {
                 return false;
@@ -1180,7 +1183,7 @@ public final class FarBank {
         final int[] here = new int[MOST_DEEDS];
         final int[] there = new int[MOST_DEEDS];
         final int[] townOf = new int[MOST_PERSONS];
-        final int[] first = new int[MOST_PERSONS];
+        private final int[] first = new int[MOST_PERSONS];
         private final int[] answers = new int[MOST_PERSONS * MOST_DEEDS];
         final int[] groupTown = new int[MOST_GROUPS];
         final int[] many = new int[MOST_GROUPS];
@@ -1237,14 +1240,14 @@ public final class FarBank {
             return p >= 0 && p < MOST_PERSONS && d >= 0 && d < MOST_DEEDS ? p * MOST_DEEDS + d : 0;
         }
 
-        void forgetAnswers(int p) {
-            for (int d = 0; d < MOST_DEEDS; d++) {
-                answers[cell(p, d)] = NONE;
+        /** On all of which nothing will be told, a PERSON does his first DEED. */
+        void startAnswers(int p, int d) {
+            for (int on = 0; on < MOST_DEEDS; on++) {
+                tellAnswer(p, on, d);
             }
-        }
-
-        boolean isAnswerTold(int p, int d) {
-            return answers[cell(p, d)] != NONE;
+            if (p >= 0 && p < first.length) {
+                first[p] = d;
+            }
         }
 
         void tellAnswer(int p, int on, int d) {
@@ -1256,7 +1259,7 @@ public final class FarBank {
             if (!hasPerson(p)) {
                 return NONE;
             }
-            return hasDeed(on) && isAnswerTold(p, on) ? answers[cell(p, on)] : first[p];
+            return hasDeed(on) ? answers[cell(p, on)] : first[p];
         }
 
         boolean doAlike(int p, int q) {
@@ -1701,17 +1704,20 @@ public final class FarBank {
         private final int[] table = new int[MOST_PERSONS * MOST_PERSONS];
         private final int[] begun = new int[PAIRS];
         private final int[] worthUpTo = new int[PAIRS + 1];
+        private int worthOfOther;
         int roundFrom;
         int roundLong = 1;
         int roundWorth;
 
-        /** PAY of the first one's TOWN. */
+        /** PAY of the first one's TOWN; that of the other one's is kept beside it. */
         int worthOf(River river, int p, int q, int n) {
             int a = river.answerOf(p, NONE);
             int b = river.answerOf(q, NONE);
             int sum = 0;
+            worthOfOther = 0;
             for (int i = 0; i < n; i++) {
                 sum += river.worthOfBoth(a, b);
+                worthOfOther += river.worthOfBoth(b, a);
                 int next = river.answerOf(p, b);
                 b = river.answerOf(q, a);
                 a = next;
@@ -1746,9 +1752,10 @@ public final class FarBank {
 
         void fillTable(River river, int n) {
             for (int p = 0; p < river.persons; p++) {
-                for (int q = 0; q < river.persons; q++) {
+                for (int q = 0; q < p; q++) {
                     if (river.areRivals(p, q)) {
                         table[cell(p, q)] = worthOf(river, p, q, n);
+                        table[cell(q, p)] = worthOfOther;
                     }
                 }
             }
