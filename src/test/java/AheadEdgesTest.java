@@ -236,6 +236,43 @@ public final class AheadEdgesTest {
         return count;
     }
 
+    private static void lie(FarBank bank, int town, int n, int weal, int... want) {
+        Checks.due("petition(" + town + ", " + n + ")", bank.petition(town, n), weal);
+        for (int i = 0; i < want.length; i++) {
+            Checks.due("lies(" + i + ")", bank.lies(i), want[i]);
+        }
+    }
+
+    /** As much by fewer DEEDS asked for, though others would come first; and of as many the first. */
+    private static void fewest() {
+        FarBank bank = Checks.told("deed a here bad 2 there good 2;deed b here good 1 there good 1;deed c here good 3 there good 3;"
+                + "person p of 0 first a on a does b on b does c on c does b;person q of 1 first a on a does c on b does c on c does a;");
+        bank.force(0);
+        bank.force(1);
+        // b, none, c comes to 9 as well.
+        lie(bank, 0, 3, 9, 2, -1, -1);
+        bank = Checks.told("deed a here good 3 there bad 2;deed b here good 3 there good 3;deed c here bad 2 there good 3;"
+                + "person p of 0 first b on a does a on b does b on c does a;person q of 1 first a on a does b on b does a on c does c;");
+        bank.force(0);
+        bank.force(1);
+        // b, b, b comes to 18 as well.
+        lie(bank, 0, 3, 18, 2, 1, -1);
+        bank = Checks.told("deed a here good 0 there bad 1;deed b here bad 1 there bad 2;person p of 0 first b on a does b on b does a;"
+                + "person q of 1 first b on a does b on b does a;");
+        bank.force(0);
+        bank.force(1);
+        // a, none, none comes to -6 as well, by as many.
+        lie(bank, 0, 3, -6, -1, -1, 0);
+        String like = "deed a here good 0 there good 0;deed b here good 0 there good 1;deed c here good 0 there good 1;";
+        bank = Checks.told(like + "person p of 0 first b;person q of 1 first a;");
+        bank.force(0);
+        bank.force(1);
+        lie(bank, 1, 3, 3, -1, -1, -1);
+        lie(bank, 0, 1, 1, 1);
+        lie(bank, 0, 2, 2, 1, 1);
+        lie(bank, 0, 3, 3, 1, 1, 1);
+    }
+
     /** One TOWN is ruled, the other one is not. */
     private static void unruled() {
         for (int town = 0; town < 2; town++) {
@@ -511,6 +548,21 @@ public final class AheadEdgesTest {
         Checks.due("like ones: the first", bank.fair(1), 0);
         Checks.due("worth the most", bank.fair(2), 100);
         Checks.due("all hold", bank.treaties(60), 4);
+        // Whichever DEED is the worst there and whichever the best here: kept, 1 + 2 a season; broken, 3 + 2 now, then 3 - 7.
+        String[] three = {"deed # here good 1 there good 2;", "deed # here good 3 there good 0;", "deed # here good 0 there bad 7;"};
+        int[][] orders = {{0, 1, 2}, {0, 2, 1}, {1, 0, 2}, {1, 2, 0}, {2, 0, 1}, {2, 1, 0}};
+        for (int[] order : orders) {
+            String text = "";
+            int kept = 0;
+            for (int i = 0; i < 3; i++) {
+                text += three[order[i]].replace('#', (char) ('a' + i));
+                kept = order[i] == 0 ? i : kept;
+            }
+            bank = Checks.told(text);
+            Checks.due("5 against 3", bank.holds(kept, kept, 0), 0);
+            Checks.due("1 against 6", bank.holds(kept, kept, 1), 1);
+            Checks.due("fair(2)", bank.fair(2), 3);
+        }
         bank = Checks.told(rows("deed # here good 0 there good 0;", 'a', 'd') + "deed e here good 0 there good 1;");
         Checks.due("the last one", bank.fair(0), 4);
         Checks.due("the last one", bank.fair(1), 4);
@@ -524,6 +576,7 @@ public final class AheadEdgesTest {
         odds();
         sways();
         petitions();
+        fewest();
         unruled();
         pays();
         againstAll();

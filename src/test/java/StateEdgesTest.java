@@ -1,5 +1,6 @@
 /** The edges of ==== 2: ints that wrap, like ones, TOWNS without PERSONS or GROUPS, the 40 ACTS that are kept, the 999 SEASONS. */
 public final class StateEdgesTest {
+    private static final int NONE = FarBank.NONE;
     private static final int LEAST = Integer.MIN_VALUE;
     private static final int LARGEST = Integer.MAX_VALUE;
     private static final String TWO = "deed a here good 1 there good 0;deed b here good 2 there good 0;";
@@ -164,6 +165,106 @@ public final class StateEdgesTest {
             s.append(sort.replace('#', (char) ('a' + i)));
         }
         return s.toString();
+    }
+
+    /** ELECTIONS by how it is then, with nothing asked before them; the last of each TOWN, then others. */
+    private static void elections() {
+        String persons = "person a of 0 first a;person b of 1 first a;person c of 1 first b;person d of 0 first b;";
+        String groups = "group g of 0 many 1;group h of 1 many 1;";
+        FarBank bank = elects(persons, groups, "vote here-2*terms;");
+        Checks.due("elect()", bank.elect(), 2);
+        Checks.due("SPEAKER of TOWN 0", bank.town(0, 1), 3);
+        Checks.due("SPEAKER of TOWN 1", bank.town(1, 1), 2);
+        bank.season();
+        Checks.due("elect() behind a season", bank.elect(), 2);
+        Checks.due("SPEAKER of TOWN 0", bank.town(0, 1), 0);
+        Checks.due("SPEAKER of TOWN 1", bank.town(1, 1), 1);
+        bank.force(3);
+        Checks.due("elect() behind force", bank.elect(), 1);
+        Checks.due("SPEAKER of TOWN 0", bank.town(0, 1), 0);
+        Checks.due("elect() again", bank.elect(), 0);
+        bank = elects(persons, groups, "vote season*(3-2*here);");
+        bank.elect();
+        Checks.due("like ones at season 0", bank.town(0, 1), 0);
+        bank = elects(persons, groups, "vote season*here;");
+        bank.season();
+        Checks.due("elect() at season 1", bank.elect(), 2);
+        Checks.due("SPEAKER of TOWN 0", bank.town(0, 1), 3);
+        Checks.due("undo()", bank.undo(), true);
+        Checks.due("undo()", bank.undo(), true);
+        Checks.due("elect() at season 0 again", bank.elect(), 2);
+        Checks.due("SPEAKER of TOWN 0", bank.town(0, 1), 0);
+        Checks.due("SPEAKER of TOWN 1", bank.town(1, 1), 1);
+    }
+
+    /** Terms of all eight, one by one, with all else that is counted beside them. */
+    private static void terms() {
+        FarBank bank = Checks.told(RefusedTest.FULL);
+        int[] want = new int[8];
+        for (int round = 0; round < 8; round++) {
+            for (int p = round; p < 8; p++) {
+                bank.force(p);
+                bank.season();
+                want[p]++;
+                if (bank.town(1 - bank.person(p, 0), 1) != NONE) {
+                    want[bank.town(1 - bank.person(p, 0), 1)]++;
+                }
+            }
+        }
+        for (int p = 0; p < 8; p++) {
+            Checks.due("terms of " + p, bank.person(p, 2), want[p]);
+        }
+        Checks.due("season", bank.about(3), 36);
+        int seed = 7;
+        for (int i = 0; i < 36; i++) {
+            seed = (seed * 137 + 71) % 1000;
+        }
+        Checks.due("SEED", bank.about(4), seed);
+    }
+
+    /** A new RIVER begins anew, wherever the old one was: behind more ACTS than are kept, behind an image, behind UNDO. */
+    private static void anew() {
+        for (int way = 0; way < 4; way++) {
+            FarBank bank = ruled();
+            for (int i = 0; i < (way == 0 ? 45 : 5); i++) {
+                bank.season();
+            }
+            bank.drum(0, 1);
+            bank.drum(1, 1);
+            bank.image(0);
+            if (way == 1) {
+                bank.back(0);
+            }
+            for (int i = 0; i < 60 && way == 2; i++) {
+                bank.undo();
+            }
+            Checks.put(bank, ToldTest.SAMPLE);
+            Checks.due("river", bank.river(), 4);
+            for (int town = 0; town < 2; town++) {
+                Checks.due("WEAL", bank.town(town, 0), 0);
+                for (int what = 1; what <= 4; what++) {
+                    Checks.due("town(" + town + ", " + what + ")", bank.town(town, what), -1);
+                }
+            }
+            for (int p = 0; p < 4; p++) {
+                Checks.due("terms", bank.person(p, 2), 0);
+                Checks.due("is SPEAKER", bank.person(p, 3), 0);
+            }
+            int[] want = {4, 3, 3, 0, 7, 0, 0, 0, 0, 0, 6, 0};
+            for (int what = 0; what < want.length; what++) {
+                Checks.due("about(" + what + ")", bank.about(what), want[what]);
+            }
+            Checks.due("undo()", bank.undo(), false);
+            Checks.due("redo()", bank.redo(), false);
+            for (int box = 0; box < 3; box++) {
+                Checks.due("back(" + box + ")", bank.back(box), -1);
+            }
+            bank.season();
+            Checks.due("the SEED goes on from draw", bank.about(4), 30);
+            Checks.due("undo()", bank.undo(), true);
+            Checks.due("WEAL", bank.town(0, 0), 0);
+            Checks.due("season", bank.about(3), 0);
+        }
     }
 
     // ---- TOWNS without PERSONS or GROUPS
@@ -381,6 +482,9 @@ public final class StateEdgesTest {
         order();
         favourites();
         likeVotes();
+        elections();
+        terms();
+        anew();
         emptyTowns();
         kept();
         another();

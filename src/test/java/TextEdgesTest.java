@@ -3,22 +3,22 @@ public final class TextEdgesTest {
     private static final String A = "deed a here good 1 there good 1;";
     private static final String B = "deed b here good 2 there good 2;";
 
-    private static FarBank read(String text) {
+    private static FarBank read(String text, boolean isFine) {
         FarBank bank = new FarBank();
         Checks.put(bank, text);
-        bank.river();
+        Checks.due("river of '" + text + "' can be", bank.river() >= 0, isFine);
         return bank;
     }
 
     private static FarBank fine(String text) {
-        FarBank bank = read(text);
+        FarBank bank = read(text, true);
         Checks.due("FAULT of '" + text + "'", bank.fault(0), 0);
         Checks.due("place in '" + text + "'", bank.fault(1), -1);
         return bank;
     }
 
     private static void fault(String text, int code, int place) {
-        FarBank bank = read(text);
+        FarBank bank = read(text, false);
         Checks.due("FAULT of '" + text + "'", bank.fault(0), code);
         Checks.due("place in '" + text + "'", bank.fault(1), place);
     }
@@ -357,6 +357,32 @@ public final class TextEdgesTest {
         fine(A + "person a of 0 first a;group a of 0 many 1;");
     }
 
+    /** A unit, or what it goes on with, left out of a vote: the FAULT is at what stands there. */
+    private static void noUnit() {
+        for (String join : new String[] {" or ", " and ", "<", ">", "=", "+", "-", "*", "/", "%"}) {
+            faultAt("vote here" + join + "^;", 2);
+            faultAt("vote here" + join + "^);", 2);
+            faultAt("vote (here" + join + "^);", 2);
+            faultAt("vote ^" + join.trim() + " here;", 2);
+            faultAt("vote (^" + join.trim() + " here);", 2);
+            faultAt("vote here" + join + "^" + join.trim() + " here;", 2);
+            faultAt("vote here" + join + "^draw;", 2);
+        }
+        faultAt("vote not ^;", 2);
+        faultAt("vote not not ^;", 2);
+        faultAt("vote (not ^);", 2);
+        faultAt("vote (^);", 2);
+        faultAt("vote (here^;", 2);
+        faultAt("vote here^);", 2);
+        faultAt("vote here ^not here;", 2);
+        faultAt("vote here + ^not here;", 2);
+        faultAt("vote here < ^not here;", 2);
+        faultAt("vote here < there ^< 1;", 2);
+        faultAt("vote here = there ^> 1;", 2);
+        fine("vote here and not here or not there;");
+        fine("vote (here < there) < 1;");
+    }
+
     /** A text that ends too early has its FAULT at its end, blanks and all. */
     private static void tooEarly() {
         String[] lines = {"deed d here good 1 there bad 2 ;", "group g of 0 many 1 pity 2 ;", "winter 1 of 2 ;", "draw 3 ;", "vote not ( 1 + here ) < 2 ;"};
@@ -413,6 +439,7 @@ public final class TextEdgesTest {
         howManyUnits();
         within();
         theFirstByPlace();
+        noUnit();
         tooEarly();
         leftOut();
         Checks.close("TextEdgesTest");
