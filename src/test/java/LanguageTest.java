@@ -51,6 +51,28 @@ public final class LanguageTest {
         }
     }
 
+    /** What the class calls of the library, by class or by what it is called on. */
+    private static void library(String code) {
+        Set<String> may = Set.of("Math.min", "Math.max", "Math.abs", "Integer.bitCount", "System.arraycopy");
+        Matcher m = Pattern.compile("\\b(Math|Integer|Long|System|Arrays|String|List|Character|Objects)\\.\\w+").matcher(code);
+        while (m.find()) {
+            Checks.due(m.group() + " is in the library's part", may.contains(m.group()), true);
+        }
+        for (String of : new String[] {"WORDS", "SIGNS"}) {
+            m = Pattern.compile("\\b" + of + "\\.(\\w+)").matcher(code);
+            while (m.find()) {
+                Checks.due(m.group() + " is in the library's part", Set.of("length", "charAt", "indexOf").contains(m.group(1)), true);
+            }
+        }
+        // No call makes an object: all are made in constructors and fields.
+        m = Pattern.compile("\\n( *)([^\\n]*)\\bnew\\b").matcher(code);
+        while (m.find()) {
+            boolean field = m.group(2).startsWith("private final") || m.group(2).startsWith("final");
+            boolean inConstructor = m.group(2).matches("\\w+(\\[i\\])? = ");
+            Checks.due("new is in a field or a constructor: " + m.group(2), field || inConstructor, true);
+        }
+    }
+
     private static void lengths(String source) {
         int since = 0;
         String name = "";
@@ -84,6 +106,7 @@ public final class LanguageTest {
         absent(code, "\\[\\]\\[\\]");
         absent(code, "static \\{");
         face();
+        library(code);
         lengths(source);
         Checks.close("LanguageTest");
     }

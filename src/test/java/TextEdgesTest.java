@@ -116,6 +116,52 @@ public final class TextEdgesTest {
         faultAt("vote ^nothere", 2);
     }
 
+    /** No word of the grammar is a NAME, wherever one is due; those that stand for what the grammar is made of are. */
+    private static void wordsOfTheGrammar() {
+        String five = rows("deed # here good 1 there good 1;", 5);
+        for (String word : Model.WORDS) {
+            faultAt("deed ^" + word + " here good 1 there good 1;", 2);
+            faultAt(A + "person ^" + word + " of 0 first a;", 2);
+            faultAt("group ^" + word + " of 0 many 1;", 2);
+            faultAt(A + "person p of 0 first ^" + word + ";", 2);
+            faultAt(A + "person p of 0 first a on ^" + word + " does a;", 2);
+            faultAt(A + "person p of 0 first a on a does ^" + word + ";", 2);
+            fine("deed x" + word + " here good 1 there good 1;");
+            fine("deed " + word + "x here good 1 there good 1;");
+            fine("deed " + word.substring(1) + "q here good 1 there good 1;");
+            boolean begins = "deed person group vote winter draw".contains(word) && word.length() > 3;
+            fault(five + word, 2, begins && !word.equals("deed") ? five.length() + word.length() : five.length());
+        }
+        Checks.due("words of the grammar", Model.WORDS.size(), 21);
+        for (String word : new String[] {"e", "line", "both", "one", "sum", "term", "unit", "river", "n", "name", "town", "speaker", "deeds", "ons"}) {
+            fine("deed " + word + " here good 1 there good 1;person " + word + " of 0 first " + word + " on " + word + " does " + word + ";group " + word + " of 0 many 1;");
+        }
+    }
+
+    /** Each sort is numbered by itself, as told, whatever lines stand between. */
+    private static void numberedAsTold() {
+        FarBank bank = fine("group z of 1 many 9;" + B + "person z of 1 first b;draw 3;" + A + "person y of 0 first a;winter 5 of 6;group y of 0 many 8 pity 7;"
+                + "person x of 1 first b on a does a;vote 1;deed x here bad 3 there bad 4;group x of 1 many 7;");
+        int[][] deeds = {{2, 2}, {1, 1}, {-3, -4}};
+        int[][] persons = {{1, 0}, {0, 1}, {1, 0}};
+        int[][] groups = {{1, 9, 0}, {0, 8, 7}, {1, 7, 0}};
+        for (int i = 0; i < 3; i++) {
+            for (int what = 0; what < 2; what++) {
+                Checks.due("deed(" + i + ", " + what + ")", bank.deed(i, what), deeds[i][what]);
+                Checks.due("person(" + i + ", " + what + ")", bank.person(i, what), persons[i][what]);
+            }
+            for (int what = 0; what < 3; what++) {
+                Checks.due("group(" + i + ", " + what + ")", bank.group(i, what), groups[i][what]);
+            }
+        }
+        Checks.due("does(2, 1)", bank.does(2, 1), 1);
+        Checks.due("does(2, 0)", bank.does(2, 0), 0);
+        Checks.due("on a DEED told later", bank.does(2, 2), 0);
+        Checks.due("SEED", bank.about(4), 3);
+        Checks.due("winters", bank.hold(0, 1), 6);
+        Checks.due("units", bank.about(10), 1);
+    }
+
     private static void digitsOfANumber() {
         for (String n : new String[] {"0", "7", "07", "007", "0007", "999", "0999"}) {
             Checks.due("SEED by " + n, fine("draw " + n + ";").about(4), Integer.parseInt(n));
@@ -432,6 +478,8 @@ public final class TextEdgesTest {
         eachByte();
         cutShort();
         lettersOfAWord();
+        wordsOfTheGrammar();
+        numberedAsTold();
         digitsOfANumber();
         howMany();
         whichNumbers();
