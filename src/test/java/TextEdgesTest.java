@@ -308,6 +308,29 @@ public final class TextEdgesTest {
         }
     }
 
+    /** NAMES of a RIVER that was, or of a text with a FAULT, are told by nobody in the next one. */
+    private static void namesOfBefore() {
+        String five = rows("deed # here good 1 there good 1;", 5);
+        String[] before = {five, five + "draw 1;draw", five.replace(" e ", " f ") + "person e of 0 first f;"};
+        for (String first : before) {
+            for (char c = 'b'; c <= 'f'; c++) {
+                for (String line : new String[] {"person p of 0 first #;", "person p of 0 first a on # does a;", "person p of 0 first a on a does #;"}) {
+                    FarBank bank = new FarBank();
+                    Checks.put(bank, first);
+                    bank.river();
+                    bank.end(0);
+                    Checks.put(bank, A + line.replace('#', c));
+                    Checks.due("river of " + line + " with " + c, bank.river(), -1);
+                    Checks.due("FAULT", bank.fault(0), 5);
+                    Checks.due("its place", bank.fault(1), A.length() + line.indexOf('#'));
+                    bank.end(0);
+                    Checks.put(bank, A + B + line.replace('#', 'b') + "person a of 0 first b;person b of 0 first a;group a of 0 many 1;");
+                    Checks.due("river of " + line + " with b told", bank.river(), 3);
+                }
+            }
+        }
+    }
+
     // ---- units, and what is within others
 
     private static void howManyUnits() {
@@ -484,6 +507,7 @@ public final class TextEdgesTest {
         howMany();
         whichNumbers();
         notTold();
+        namesOfBefore();
         howManyUnits();
         within();
         theFirstByPlace();
