@@ -51,6 +51,48 @@ public final class LanguageTest {
         }
     }
 
+    /** Each member as the document writes it, and no other one. */
+    private static void asWritten(String document) {
+        Set<String> written = new HashSet<>();
+        Matcher m = Pattern.compile("(?m)^    public (?!static)(?:(\\w+) )?(\\w+)\\(([^)]*)\\);").matcher(document);
+        while (m.find()) {
+            String types = m.group(3).replaceAll(" \\w+(, |$)", "$1");
+            written.add((m.group(1) == null ? "" : m.group(1) + " ") + m.group(2) + "(" + types + ")");
+        }
+        Checks.due("members that the document writes", written.size(), 48);
+        Set<String> built = new HashSet<>();
+        for (Method f : FarBank.class.getDeclaredMethods()) {
+            if (Modifier.isPublic(f.getModifiers())) {
+                Checks.due(f.getName() + " is of the object", Modifier.isStatic(f.getModifiers()), false);
+                built.add(f.getReturnType() + " " + f.getName() + "(" + types(f.getParameterTypes()) + ")");
+            }
+        }
+        for (Constructor<?> c : FarBank.class.getConstructors()) {
+            built.add("FarBank(" + types(c.getParameterTypes()) + ")");
+        }
+        for (String member : written) {
+            Checks.due("built: " + member, built.contains(member), true);
+        }
+        Checks.due("members that are built", built.size(), written.size());
+        Checks.due("the class is public and final", Modifier.isPublic(FarBank.class.getModifiers())
+                && Modifier.isFinal(FarBank.class.getModifiers()), true);
+        m = Pattern.compile("public static final int (\\w+) = (-?\\d+);").matcher(document);
+        int constants = 0;
+        while (m.find()) {
+            constants++;
+            Checks.due(m.group(1), m.group(1).equals("NONE") ? FarBank.NONE : FarBank.GAP, Long.parseLong(m.group(2)));
+        }
+        Checks.due("constants that the document writes", constants, 2);
+    }
+
+    private static String types(Class<?>[] types) {
+        StringBuilder all = new StringBuilder();
+        for (Class<?> type : types) {
+            all.append(all.length() == 0 ? "" : ", ").append(type);
+        }
+        return all.toString();
+    }
+
     /** What the class calls of the library, by class or by what it is called on. */
     private static void library(String code) {
         Set<String> may = Set.of("Math.min", "Math.max", "Math.abs", "Integer.bitCount", "System.arraycopy");
@@ -89,7 +131,8 @@ public final class LanguageTest {
     }
 
     public static void main(String[] args) throws Exception {
-        String source = Files.readString(Path.of(args.length > 0 ? args[0] : ".", "src/main/java/FarBank.java"));
+        String root = args.length > 0 ? args[0] : ".";
+        String source = Files.readString(Path.of(root, "src/main/java/FarBank.java"));
         for (int i = 0; i < source.length(); i++) {
             if (source.charAt(i) > 126) {
                 Checks.due("a sign above 126 at " + i, 1, 0);
@@ -106,6 +149,12 @@ public final class LanguageTest {
         absent(code, "\\[\\]\\[\\]");
         absent(code, "static \\{");
         face();
+        Path document = Path.of(root, "../shared/DOC.md");
+        if (Files.isReadable(document)) {
+            asWritten(Files.readString(document));
+        } else {
+            System.out.println("LanguageTest: no " + document + ", so the face was not held against it");
+        }
         library(code);
         lengths(source);
         Checks.close("LanguageTest");
